@@ -889,22 +889,27 @@ public final class LeastWants {
         /** How many share the lot if he, too, says the lowest of the others. */
         int odds;
         private int lowest;
-        private int having;
-        private int lacking;
+        private int below;
+        private int shared;
+        private int above;
 
+        /** Gains are kept times odds: so those by all his sayings compare as whole numbers. */
         void look(Town town, int thing, Sayings sayings, int person, int law) {
             lowest = sayings.lowest(person);
             odds = 1 + sayings.manyAt(lowest, person);
-            having = town.worthOf(thing, person) + town.winnerGets(law, sayings.next(person));
-            lacking = town.othersGet(law);
+            int having = town.worthOf(thing, person) + town.winnerGets(law, sayings.next(person));
+            int lacking = town.othersGet(law);
+            below = having * odds;
+            shared = having + lacking * (odds - 1);
+            above = lacking * odds;
         }
 
-        /** His gain, times odds: so gains by all his sayings compare as whole numbers. */
+        /** His gain by a saying, times odds. */
         int gainBy(int saying) {
             if (saying < lowest) {
-                return having * odds;
+                return below;
             }
-            return saying > lowest ? lacking * odds : having + lacking * (odds - 1);
+            return saying > lowest ? above : shared;
         }
 
         int bestSaying() {

@@ -18,6 +18,7 @@ public final class ActsTest {
         tellsOwnSayings();
         refusesToTell();
         keepsImages();
+        keepsAllOfATown();
         refusesImages();
         C.end();
     }
@@ -279,6 +280,27 @@ public final class ActsTest {
         x.back(1);
         C.due("restore(0) of the newer", x.restore(0), 1);
         C.due("thing(1, 0) of the newer", x.thing(1, 0), 1);
+    }
+
+    private static void keepsAllOfATown() {
+        LeastWants x = Checks.townOf("law 3 1;person true;person sly;person shy;person widow;"
+            + "thing 1 2 3 4;thing 5 6 7 8;thing 9 10 11 12;thing 13 14 15 16;thing 17 18 19 20;");
+        x.offer(4, 1);
+        x.back(4);
+        x.offer(4, 1);
+        x.image(0);
+        Checks.read(x, "law 0 0;person true;thing 60;");
+        x.restore(0);
+        for (int p = 0; p < 4; p++) {
+            C.due("kind(" + p + ")", x.kind(p), new int[] {1, 2, 3, 5}[p]);
+            C.due("coin(" + p + ")", x.coin(p), p == 3 ? 6 : -2);
+            for (int t = 0; t < 5; t++) {
+                C.due("worth(" + t + ", " + p + ", 0)", x.worth(t, p, 0), 4 * t + p - 29 - (t == 4 ? 2 : 0));
+            }
+        }
+        C.due("thing(4, 0)", x.thing(4, 0), 3);
+        C.due("thing(4, 1)", x.thing(4, 1), 1);
+        C.due("count(3)", x.count(3), 1);
     }
 
     private static void refusesImages() {

@@ -100,6 +100,7 @@ public final class ForetoldTest {
     private static void rests(String text, int many, int... first) {
         LeastWants x = Checks.townOf(text);
         C.due("rests(0, -1) of " + text, x.rests(0, -1), many);
+        C.due("rests(0, -1) again of " + text, x.rests(0, -1), many);
         for (int i = 0; i < first.length; i++) {
             C.due("rests(0, " + i + ") of " + text, x.rests(0, i), first[i]);
         }
@@ -184,6 +185,11 @@ public final class ForetoldTest {
         lost(x, 5, 2);
         Checks.lay(x, 0, 2, 1, 1, 2);
         lost(x, 3, 2);
+        x = Checks.townOf("law 0 0;person true;person true;thing 5 40;");
+        Checks.lay(x, 0, 1, 1);
+        lost(x, 35, 2);
+        Checks.lay(x, 0, 1, 2);
+        lost(x, 35, 1);
     }
 
     private static void honest(String text, int now, int laws) {

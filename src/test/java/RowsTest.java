@@ -45,6 +45,10 @@ public final class RowsTest {
         C.due("count(0) of two and one", x.count(0), 3);
         C.due("row(7, 1, 3)", x.row(7, 1, 3), 3);
         C.due("set(7, 3, 1)", x.set(7, 3, 1), PLACE);
+        Checks.read(x, "law 0 0;person true;thing 10;");
+        x.row(5, 2, 1);
+        C.due("ore(0, 5): 0 at first is less than 1", x.ore(0, 5), 1);
+        x.drop(5);
         C.due("row(-1, 0, 1)", x.row(-1, 0, 1), LeastWants.BAD);
         C.due("row(8, 0, 1)", x.row(8, 0, 1), LeastWants.BAD);
         C.due("row(0, -1, 1)", x.row(0, -1, 1), LeastWants.BAD);
@@ -91,6 +95,15 @@ public final class RowsTest {
         C.due("ore(0, 0): the source stays", x.ore(0, 0), LeastWants.BAD);
         C.due("copy(0, 4, 1, 3, 0) of none at the ends", x.copy(0, 4, 1, 3, 0), 0);
         C.due("copy(0, 0, 1, 0, 3)", x.copy(0, 0, 1, 0, 3), 3);
+        C.due("row(0, 2, 4) in place of what is there", x.row(0, 2, 4), 4);
+        C.due("ore(0, 0) of items that are 0 at first", x.ore(0, 0), 1);
+        for (int i = 0; i < 40; i++) {
+            x.row(2, 2, 40);
+            x.set(2, i, 7);
+            x.row(2, 2, 40);
+            x.copy(2, i, 0, 0, 1);
+            C.due("item " + i + " of a row laid anew", x.ore(0, 0), 1);
+        }
         C.due("ore(0, 1) then", x.ore(0, 1), LeastWants.BAD);
     }
 

@@ -15,6 +15,7 @@ public final class TapeTest {
         tellsWhatHasNoRoom();
         aFaultChangesNothingElse();
         aTownBeginsAnew();
+        nothingOfEarlierTextsIsLeft();
         C.end();
     }
 
@@ -109,6 +110,9 @@ public final class TapeTest {
         fault("person true;", 0, 1);
         fault("lawyer 1 3;", 0, 1);
         fault("la 1 3;", 0, 1);
+        fault("saw 1 3;", 0, 1);
+        fault("lawz 1 3;", 0, 1);
+        fault("alaw 1 3;", 0, 1);
         fault("law;", 3, 1);
         fault("law 1;", 5, 1);
         fault("law 1 3 4;", 8, 1);
@@ -223,5 +227,32 @@ public final class TapeTest {
         C.due("restore(1): IMAGES stay", x.restore(1), 1);
         C.due("thing(0, 0) of the image", x.thing(0, 0), 0);
         C.due("coin(0) of the image", x.coin(0), -30);
+    }
+
+    private static void nothingOfEarlierTextsIsLeft() {
+        LeastWants x = Checks.townOf("law 3 20;person rich;person true;thing 50 60;thing 0 0;");
+        x.offer(0, 10);
+        x.back(0);
+        x.offer(0, 10);
+        C.due("a tape that ends where a longer name stood", Checks.read(x, "la"), -1000100);
+        C.due("an end where a number went on", Checks.read(x, "law 3 2"), -1000107);
+        C.due("an end where a name went on", Checks.read(x, "law 3 20;person r"), -1000116);
+        C.due("fault() of it", x.fault(), 1);
+        C.due("a fault behind things", Checks.read(x, ONE + "thing 5;thing 6;#"), -1000136);
+        for (int i = 0; i < 3; i++) {
+            C.due("a town of one", Checks.read(x, ONE), 1);
+            C.due("count(1)", x.count(1), 1);
+            C.due("count(2)", x.count(2), 0);
+            C.due("coin(0)", x.coin(0), 0);
+            C.due("a town of two", Checks.read(x, LAW + "person shy;person shy;thing 30 30;"), 2);
+            C.due("thing(0, 0)", x.thing(0, 0), LeastWants.NONE);
+            C.due("thing(0, 1)", x.thing(0, 1), 0);
+            C.due("coin(0)", x.coin(0), 0);
+            C.due("coin(1)", x.coin(1), 0);
+            x.offer(0, 2);
+            x.back(0);
+            x.offer(0, 2);
+            C.due("coin(0) of 3 times 2 and 3 times 1", x.coin(0), -9);
+        }
     }
 }

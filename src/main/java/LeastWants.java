@@ -487,6 +487,8 @@ public final class LeastWants {
     /** A law, people and things, and how it stands with them; without people it is none. */
     private static final class Town {
         static final int PEOPLE = 4, THINGS = 5;
+        /** A text tells 30 more than what a thing is worth, so that it needs no sign for less than nothing. */
+        static final int MOST_FEE = 20, MOST_TOLD = 60, TOLD_ABOVE = 30;
         static final int TRUE = 1, SLY = 2, SHY = 3, RICH = 4, WIDOW = 5;
 
         int pays;
@@ -530,7 +532,7 @@ public final class LeastWants {
         }
 
         int ownSaying(int thing, int person) {
-            int frank = Math.max(0, Math.min(Sayings.MOST, (30 + worthOf(thing, person)) / 10));
+            int frank = Math.max(0, Math.min(Sayings.MOST, (TOLD_ABOVE + worthOf(thing, person)) / 10));
             switch (kinds[person]) {
                 case SLY: return Sayings.MOST - frank;
                 case SHY: return Math.max(0, frank - 1);
@@ -642,7 +644,7 @@ public final class LeastWants {
                 return false;
             }
             town.pays = number;
-            if (!passesNumber(20)) {
+            if (!passesNumber(Town.MOST_FEE)) {
                 return false;
             }
             town.fee = number;
@@ -679,10 +681,10 @@ public final class LeastWants {
                 }
                 step();
                 for (int p = 0; p < town.people; p++) {
-                    if (!passesNumber(60)) {
+                    if (!passesNumber(Town.MOST_TOLD)) {
                         return false;
                     }
-                    town.told[i * Town.PEOPLE + p] = number - 30;
+                    town.told[i * Town.PEOPLE + p] = number - Town.TOLD_ABOVE;
                 }
                 if (!passesSign()) {
                     return false;

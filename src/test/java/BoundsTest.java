@@ -31,12 +31,14 @@ public final class BoundsTest {
         whoPaysWhom();
         ownSayings();
         wornThings();
+        whoeverHasIt();
         twentyFourActs();
         actsGoRound();
         fractions();
         bestOfSeveral();
         rests();
         turns();
+        turnsThatGoRound();
         turnsOfFour();
         leastAndMost();
         lostOfSeveral();
@@ -542,6 +544,28 @@ public final class BoundsTest {
         }
     }
 
+    /** "A THING is returned: who had it"; "to whom it comes": each of four, for each of five things. */
+    private static void whoeverHasIt() {
+        LeastWants x = town(3, 5, FOUR + "thing 30 30 30 30;".repeat(5));
+        for (int who = 0; who < 4; who++) {
+            Checks.lay(x, 0, 1, 1, 1, 1);
+            x.set(0, who, 0);
+            for (int t = 0; t < 5; t++) {
+                C.due("give(" + t + ", 0, 8)", x.give(t, 0, 8), who);
+                C.due("thing(" + t + ", 0)", x.thing(t, 0), who);
+                C.due("count(3)", x.count(3), t + 1);
+            }
+            for (int t = 4; t >= 0; t--) {
+                int coin = x.coin(who);
+                C.due("back(" + t + ")", x.back(t), who);
+                C.due("thing(" + t + ", 0) of nobody", x.thing(t, 0), NONE);
+                C.due("thing(" + t + ", 1)", x.thing(t, 1), who + 1);
+                C.due("coin of who had it stays", x.coin(who), coin);
+                C.due("count(3)", x.count(3), t);
+            }
+        }
+    }
+
     /** "24 at most are kept, of more the oldest is forgotten; each can be undone, the latest first". */
     private static void twentyFourActs() {
         for (int acts = 23; acts <= 26; acts++) {
@@ -686,6 +710,10 @@ public final class BoundsTest {
         rests(town(0, 0, FOUR + "thing 29 29 29 31;"), 225, 1, 1, 1, 0);
         rests(town(0, 0, FOUR + "thing 31 29 29 29;"), 225, 0, 1, 1, 1);
         rests(town(0, 0, FOUR + "thing 29 31 29 31;"), 25, 1, 0, 1, 0);
+        // Worth -7 and 2, and twice what the other says is to be paid: 1 0, by which he pays what it is worth, or 5 5.
+        rests(town(1, 2, "person true;person true;thing 23 32;"), 2, 1, 0);
+        // Each wants it for nothing and none for 25: all say 0, or all say 5.
+        rests(town(1, 5, "person true;person sly;person rich;thing 31 38 35;"), 2, 0, 0, 0);
     }
 
     private static void turned(LeastWants x, int many, int... then) {
@@ -714,7 +742,29 @@ public final class BoundsTest {
         }
     }
 
-    /** Six rounds are the most that have been found to end; four people, each of whom is told. */
+    /** Rows that go round by 13, by 11, by 10 and by 7: what one says behind 20 is so behind no other number near. */
+    private static void turnsThatGoRound() {
+        goesRound(FOUR + "thing 22 22 22 22;", new int[][] {{4, 4, 4, 0}, {1, 1, 1, 2}, {2, 2, 3, 3}, {3, 4, 4, 4},
+            {0, 1, 1, 1}, {2, 2, 2, 3}, {3, 3, 4, 4}, {4, 0, 1, 1}, {1, 2, 2, 2}, {3, 3, 3, 4}, {4, 4, 0, 1}, {1, 1, 2, 2},
+            {2, 3, 3, 3}});
+        goesRound("person true;person sly;person rich;thing 20 20 20;", new int[][] {{5, 5, 0}, {1, 1, 2}, {2, 3, 3},
+            {4, 4, 5}, {5, 0, 1}, {1, 2, 2}, {3, 3, 4}, {4, 5, 5}, {0, 1, 1}, {2, 2, 3}, {3, 4, 4}});
+        goesRound(FOUR + "thing 20 22 23 22;", new int[][] {{4, 4, 4, 0}, {1, 1, 1, 2}, {2, 2, 3, 3}, {3, 4, 4, 4},
+            {5, 0, 1, 1}, {1, 2, 2, 2}, {3, 3, 3, 4}, {4, 4, 0, 1}, {1, 1, 2, 2}, {2, 3, 3, 3}});
+        goesRound("person widow;person shy;person true;thing 24 25 24;", new int[][] {{3, 3, 0}, {1, 1, 2}, {2, 3, 3},
+            {0, 1, 1}, {2, 2, 3}, {3, 0, 1}, {1, 2, 2}});
+    }
+
+    /** By law 2 with fee 2 each takes it if twice what the others say at least makes up for what it costs him. */
+    private static void goesRound(String rest, int[][] round) {
+        LeastWants x = town(2, 2, rest);
+        for (int i = 0; i < round.length; i++) {
+            Checks.lay(x, 0, round[i]);
+            turned(x, NONE, round[(i + 20) % round.length]);
+        }
+    }
+
+    /** Six rounds are the most by which turns end at all; four people, each of whom is told. */
     private static void turnsOfFour() {
         LeastWants x = town(1, 18, FOUR + "thing 45 6 0 28;");
         Checks.lay(x, 0, 2, 0, 4, 2);
